@@ -49,8 +49,8 @@ public final class GumBubble {
 
     public int afternoon() {
         if (now.afternoons >= MOST_AFTERNOONS) return FULL;
-        Afternoon next = new Afternoon(now.tape, now.tapeSize);
-        int fault = next.read();
+        Afternoon next = new Afternoon();
+        int fault = next.read(now.tape, now.tapeSize);
         now.tapeSize = 0;
         if (fault >= 0) return -10 - fault;
         now.afternoon = next;
@@ -596,7 +596,7 @@ public final class GumBubble {
         int tapeSize;
         int afternoons;
         /** The one that holds; one without clauses while there is none. */
-        Afternoon afternoon = new Afternoon(tape, 0);
+        Afternoon afternoon = new Afternoon();
         final Rows seen = new Rows(MOST_SEEN);
         final Rows plan = new Rows(MOST_PLAN);
         final Rows book = new Rows(MOST_BOOK);
@@ -889,17 +889,14 @@ public final class GumBubble {
         private final int[] ends = new int[MOST_CLAUSES];
         private final int[] code = new int[MOST_CODE];
         private int codeSize;
-        private final int[] tape;
-        private final int size;
+        private int[] tape = new int[0];
+        private int size;
         private int at;
 
-        Afternoon(int[] tape, int size) {
-            this.tape = tape;
-            this.size = Math.min(size, tape.length);
-        }
-
         /** Answers the fault's place, -1 if there is none. */
-        int read() {
+        int read(int[] from, int many) {
+            tape = from;
+            size = Math.min(many, from.length);
             for (int i = 0; i < MOST_CLAUSES; i++) {
                 if (i > 0 && !take(';')) return at;
                 if (!readClause()) return at;

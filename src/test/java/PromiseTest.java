@@ -181,6 +181,8 @@ public final class PromiseTest {
         for (String head : heads) {
             int at = -10 - head.length();
             due(read(x, head + "x"), at);
+            due(read(x, head + "=1"), at);
+            due(read(x, head + "!=1"), at - 1);
             due(read(x, head + "c"), at - 1);
             due(read(x, head + "c1"), at - 1);
             due(read(x, head + "c="), at - 2);
