@@ -10,6 +10,8 @@ public final class ModelTest {
     private final GumBubble x = new GumBubble();
     private final Model m = new Model();
     private final StringBuilder told = new StringBuilder();
+    /** What an object answers later than its 512th call is free. */
+    private int left = CALLS;
 
     private ModelTest(long seed) {
         random = new Random(seed);
@@ -26,18 +28,15 @@ public final class ModelTest {
 
     private boolean agrees(int run) {
         boolean scripted = run % 2 == 0;
-        int left = CALLS;
         while (left > 0) {
             if (scripted && random.nextInt(60) == 0 || left == CALLS && random.nextBoolean()) {
                 String text = text();
-                for (int i = 0; i < text.length() && left > 1; i++, left--) {
+                for (int i = 0; i < text.length() && left > 1; i++) {
                     if (!same("feed", x.feed(text.charAt(i)), m.feed(text.charAt(i)), text.charAt(i), 0, 0)) return false;
                 }
-                left--;
                 if (!same("afternoon", x.afternoon(), m.afternoon(), 0, 0, 0)) return false;
                 continue;
             }
-            left--;
             if (!call(random.nextInt(left > CALLS - 60 ? 9 : 42))) return false;
         }
         return true;
@@ -60,6 +59,7 @@ public final class ModelTest {
     }
 
     private boolean same(String name, long got, long due, int a, int b, int c) {
+        left--;
         told.append(name).append('(').append(a).append(", ").append(b).append(", ").append(c).append(") ").append(due)
                 .append('\n');
         if (got == due) return true;
@@ -122,8 +122,8 @@ public final class ModelTest {
     }
 
     private boolean traces() {
-        for (int i = 0; i < 8; i++) if (!same("trace", x.trace(i), m.trace(i), i, 0, 0)) return false;
-        return same("count", x.count(6), m.count(6), 6, 0, 0);
+        for (int i = 0; i < 8 && left > 1; i++) if (!same("trace", x.trace(i), m.trace(i), i, 0, 0)) return false;
+        return left == 0 || same("count", x.count(6), m.count(6), 6, 0, 0);
     }
 
     /** Mostly what will be so, or it were hardly ever so. */

@@ -1,11 +1,5 @@
 /** Promise by promise: ordinary inputs, the edges that the document names, and each refusal in its order. */
-public final class PromiseTest {
-    private static final int NONE = GumBubble.NONE, BAD = GumBubble.BAD, STATE = GumBubble.STATE, FULL = GumBubble.FULL;
-    private static final long NO = GumBubble.NO;
-    private static int promise = 0;
-    private static int calls = 0;
-    private static int wrong = 0;
-
+public final class PromiseTest extends TestKit {
     public static void main(String[] args) {
         constantsAndNewObject();
         feed();
@@ -43,45 +37,11 @@ public final class PromiseTest {
         imageAndUndo();
         count();
         askingChangesNothing();
-        if (wrong != 0) System.exit(1);
-        System.out.println("PromiseTest: " + calls + " answers are as due");
-    }
-
-    private static void due(long got, long want) {
-        calls++;
-        if (got == want) return;
-        wrong++;
-        StackTraceElement at = new Throwable().getStackTrace()[1];
-        System.out.println("promise " + promise + ", line " + at.getLineNumber() + ": answered " + got + ", due is " + want);
-    }
-
-    private static int read(GumBubble x, String text) {
-        for (int i = 0; i < text.length(); i++) x.feed(text.charAt(i));
-        return x.afternoon();
-    }
-
-    private static GumBubble on(String text) {
-        GumBubble x = new GumBubble();
-        if (!text.isEmpty()) due(read(x, text), 0);
-        return x;
-    }
-
-    /** Children 0 .. 6 are too many; so three objects hold all kinds between them. */
-    private static GumBubble of(int... kindsAndVs) {
-        GumBubble x = new GumBubble();
-        for (int i = 0; i + 1 < kindsAndVs.length; i += 2) due(x.child(kindsAndVs[i], kindsAndVs[i + 1]), i / 2);
-        return x;
-    }
-
-    /** Sets pieces, sugar and jaw. */
-    private static void put(GumBubble x, int child, int pieces, int sugar, int jaw) {
-        x.set(child, 0, pieces);
-        x.set(child, 1, sugar);
-        x.set(child, 2, jaw);
+        end("PromiseTest");
     }
 
     private static void constantsAndNewObject() {
-        promise = 1;
+        about("promise 1");
         due(GumBubble.NONE, -1);
         due(GumBubble.BAD, -2);
         due(GumBubble.STATE, -3);
@@ -109,7 +69,7 @@ public final class PromiseTest {
     }
 
     private static void feed() {
-        promise = 2;
+        about("promise 2");
         GumBubble x = new GumBubble();
         due(x.feed(-1), BAD);
         due(x.feed(128), BAD);
@@ -125,7 +85,7 @@ public final class PromiseTest {
     }
 
     private static void afternoonWords() {
-        promise = 3;
+        about("promise 3");
         GumBubble x = new GumBubble();
         due(x.afternoon(), -10);
         due(read(x, "x"), -10);
@@ -225,7 +185,7 @@ public final class PromiseTest {
     }
 
     private static void child() {
-        promise = 4;
+        about("promise 4");
         GumBubble x = new GumBubble();
         due(x.child(-1, 10), NONE);
         due(x.child(7, 0), NONE);
@@ -255,7 +215,7 @@ public final class PromiseTest {
     }
 
     private static void of() {
-        promise = 5;
+        about("promise 5");
         GumBubble x = of(0, 5, 1, 5, 2, 5, 3, 5, 4, 5);
         GumBubble y = of(5, 5, 6, 5);
         for (int c = 0; c < 5; c++) put(x, c, 5, 30, 21);
@@ -295,7 +255,7 @@ public final class PromiseTest {
     }
 
     private static void stretch() {
-        promise = 5;
+        about("promise 5");
         String[] so = {"c=1", "k=3", "v=4", "p=1", "s=2", "m=0", "c<2", "c>0", "m<1", "!c=0", "!!c=1", "c=1|c=0&c=0",
             "c=0&c=0|c=1", "c=1&c=0|k=3", "!c=0&!c=2", "!(c=0&c=1)", "(c=0|c=1)&k>2", "!c=0|c=0", "s<3&s>1", "v>3",
             "(((((c=1)))))", "!!!!c=1&!!!!c=1", "c=0|c=0|c=1", "c=1|c=0|c=0", "c=1|c=1&c=0"};
@@ -333,7 +293,7 @@ public final class PromiseTest {
     }
 
     private static void row() {
-        promise = 6;
+        about("promise 6");
         GumBubble x = of(6, 0, 3, 0);
         due(x.row(2, 0, 10), NONE);
         due(x.row(-1, 0, 0), NONE);
@@ -356,7 +316,7 @@ public final class PromiseTest {
     }
 
     private static void set() {
-        promise = 7;
+        about("promise 7");
         GumBubble x = of(0, 0, 0, 0);
         due(x.set(2, 0, 99), NONE);
         due(x.set(-1, 0, 0), NONE);
@@ -383,7 +343,7 @@ public final class PromiseTest {
     }
 
     private static void told() {
-        promise = 8;
+        about("promise 8");
         GumBubble x = on("wind 3;sweet 4");
         for (int c = 0; c < 3; c++) x.child(c, 0);
         due(x.told(-1), NONE);
@@ -402,7 +362,7 @@ public final class PromiseTest {
     }
 
     private static void blow() {
-        promise = 9;
+        about("promise 9");
         GumBubble x = of(0, 0, 5, 0);
         due(x.blow(2, 0), NONE);
         due(x.blow(-1, 1), NONE);
@@ -438,7 +398,7 @@ public final class PromiseTest {
     }
 
     private static void pass() {
-        promise = 10;
+        about("promise 10");
         GumBubble x = of(0, 2, 1, 2, 3, 2, 0, 2);
         put(x, 0, 3, 50, 97);
         put(x, 1, 2, 5, 0);
@@ -484,7 +444,7 @@ public final class PromiseTest {
     }
 
     private static void on() {
-        promise = 11;
+        about("promise 11");
         GumBubble x = of(0, 0, 0, 4);
         due(x.on(61, 12), NONE);
         due(x.on(0, 1), NONE);
@@ -510,7 +470,7 @@ public final class PromiseTest {
     }
 
     private static void when() {
-        promise = 12;
+        about("promise 12");
         GumBubble x = of(0, 0);
         due(x.when(1, 0), NONE);
         due(x.when(-1, 0), NONE);
@@ -544,7 +504,7 @@ public final class PromiseTest {
     }
 
     private static void soon() {
-        promise = 13;
+        about("promise 13");
         GumBubble x = of(0, 0);
         due(x.soon(1, 0), NONE);
         due(x.soon(-1, 1), NONE);
@@ -562,7 +522,7 @@ public final class PromiseTest {
     }
 
     private static void pieces() {
-        promise = 14;
+        about("promise 14");
         GumBubble x = of(0, 0);
         due(x.pieces(1, 0), NONE);
         due(x.pieces(-1, 1), NONE);
@@ -586,7 +546,7 @@ public final class PromiseTest {
     }
 
     private static void breathsAndSlack() {
-        promise = 15;
+        about("promise 15");
         GumBubble x = of(0, 0);
         put(x, 0, 1, 0, 0);
         due(x.breaths(1, 0), NONE);
@@ -603,7 +563,7 @@ public final class PromiseTest {
         due(x.slack(0), 10);
         x.set(0, 1, 15);
         due(x.breaths(0, 1), 0);
-        promise = 16;
+        about("promise 16");
         due(x.slack(0), -5);
         x.set(0, 0, 0);
         due(x.slack(0), -20);
@@ -612,7 +572,7 @@ public final class PromiseTest {
     }
 
     private static void likely() {
-        promise = 17;
+        about("promise 17");
         GumBubble x = of(0, 0);
         put(x, 0, 1, 0, 0);
         due(x.likely(1, 0, 0), NO);
@@ -630,7 +590,7 @@ public final class PromiseTest {
     }
 
     private static void dare() {
-        promise = 18;
+        about("promise 18");
         GumBubble x = of(0, 0, 5, 0);
         due(x.dare(2), NONE);
         due(x.dare(-1), NONE);
@@ -653,7 +613,7 @@ public final class PromiseTest {
     }
 
     private static void first() {
-        promise = 19;
+        about("promise 19");
         GumBubble x = of(0, 0, 1, 0, 5, 0);
         due(x.first(), 0);
         x.set(1, 1, 19);
@@ -667,7 +627,7 @@ public final class PromiseTest {
     }
 
     private static void beats() {
-        promise = 20;
+        about("promise 20");
         GumBubble x = of(0, 0, 0, 0);
         due(x.beats(0, 2, 0), NO);
         due(x.beats(2, 0, 0), NO);
@@ -691,7 +651,7 @@ public final class PromiseTest {
     }
 
     private static void swap() {
-        promise = 21;
+        about("promise 21");
         GumBubble x = of(0, 0, 0, 0);
         put(x, 0, 5, 20, 0);
         due(x.swap(), -5);
@@ -722,7 +682,7 @@ public final class PromiseTest {
     }
 
     private static void order() {
-        promise = 22;
+        about("promise 22");
         GumBubble x = of(0, 0, 1, 0);
         due(x.order(-2), NONE);
         due(x.order(5), NONE);
@@ -757,7 +717,7 @@ public final class PromiseTest {
     }
 
     private static void clean() {
-        promise = 23;
+        about("promise 23");
         GumBubble x = of(0, 0);
         due(x.clean(1, 0), NONE);
         due(x.clean(-1, 1), NONE);
@@ -773,7 +733,7 @@ public final class PromiseTest {
     }
 
     private static void seeAndWho() {
-        promise = 24;
+        about("promise 24");
         GumBubble x = of(0, 0, 0, 0);
         due(x.see(2, 1000, 0), NONE);
         due(x.see(-2, 0, 0), NONE);
@@ -791,7 +751,7 @@ public final class PromiseTest {
         due(x.count(2), 0);
         due(x.see(-1, 0, 0), 0);
         due(x.see(0, 0, 0), 1);
-        promise = 25;
+        about("promise 25");
         due(x.who(-1, 0), BAD);
         due(x.who(1000, 0), BAD);
         due(x.who(0, -1), BAD);
@@ -807,7 +767,7 @@ public final class PromiseTest {
     }
 
     private static void firmAndHad() {
-        promise = 26;
+        about("promise 26");
         GumBubble x = of(0, 0, 0, 0);
         due(x.firm(2, 0), NONE);
         due(x.firm(-1, 0), NONE);
@@ -828,7 +788,7 @@ public final class PromiseTest {
         due(x.see(1, 11, 0), 4);
         due(x.firm(0, 0), 0);
         due(x.firm(0, 1), -5);
-        promise = 27;
+        about("promise 27");
         due(x.see(-1, 0, 0), 0);
         due(x.had(2), NONE);
         due(x.had(-1), NONE);
@@ -856,7 +816,7 @@ public final class PromiseTest {
     }
 
     private static void mean() {
-        promise = 28;
+        about("promise 28");
         GumBubble x = new GumBubble();
         due(x.mean(0, 0), NO);
         x.child(0, 0);
@@ -884,7 +844,7 @@ public final class PromiseTest {
     }
 
     private static void plan() {
-        promise = 29;
+        about("promise 29");
         GumBubble x = of(0, 0);
         due(x.plan(-2, 0), NONE);
         due(x.plan(4, 0), NONE);
@@ -908,7 +868,7 @@ public final class PromiseTest {
     }
 
     private static void done() {
-        promise = 30;
+        about("promise 30");
         GumBubble x = of(0, 0, 0, 0);
         due(x.done(2), NONE);
         due(x.done(-1), NONE);
@@ -972,13 +932,13 @@ public final class PromiseTest {
     }
 
     private static void book() {
-        promise = 31;
+        about("promise 31");
         GumBubble x = of(0, 0, 0, 0);
         due(x.book(2, 1000), NONE);
         due(x.book(-2, 0), NONE);
         due(x.book(0, -1), BAD);
         due(x.book(0, 1000), BAD);
-        promise = 32;
+        about("promise 32");
         due(x.looked(), -5);
         due(x.book(1, 0), 1);
         due(x.looked(), -5);
@@ -992,7 +952,7 @@ public final class PromiseTest {
         due(x.looked(), 0);
         x.pass(7);
         due(x.looked(), 2);
-        promise = 31;
+        about("promise 31");
         for (int i = 4; i <= 8; i++) due(x.book(0, 999), i);
         due(x.book(0, 999), FULL);
         due(x.book(0, 1000), BAD);
@@ -1004,7 +964,7 @@ public final class PromiseTest {
     }
 
     private static void act() {
-        promise = 33;
+        about("promise 33");
         GumBubble x = of(0, 2, 1, 2, 2, 2, 3, 2, 4, 2);
         GumBubble y = of(0, 0, 5, 2, 6, 2);
         acted(x, 0, 0, 10, 10, 1);
@@ -1044,16 +1004,15 @@ public final class PromiseTest {
         due(x.act(child, act, with), answer);
         due(x.count(6), bodies.length);
         for (int i = 0; i < bodies.length; i++) due(x.trace(i), bodies[i]);
-        int before = promise;
-        promise = 34;
+        about("promise 34");
         due(x.trace(bodies.length), NONE);
         due(x.trace(-1), NONE);
         due(x.trace(20), NONE);
-        promise = before;
+        about("promise 33");
     }
 
     private static void as() {
-        promise = 35;
+        about("promise 35");
         String[] under = {"0", "01", "02", "03", "014", "025", "036"};
         for (int kind = 0; kind <= 6; kind++) {
             GumBubble x = of(kind, 9 - kind);
@@ -1066,7 +1025,7 @@ public final class PromiseTest {
     }
 
     private static void imageAndUndo() {
-        promise = 36;
+        about("promise 36");
         GumBubble x = new GumBubble();
         due(x.image(), 0);
         due(read(x, "wind 2;sweet 7"), 0);
@@ -1089,7 +1048,7 @@ public final class PromiseTest {
         due(x.image(), 2);
         int[] was = new int[30];
         look(x, was);
-        promise = 37;
+        about("promise 37");
         for (int round = 0; round < 2; round++) {
             due(x.child(4, 9), 2);
             x.row(0, 1, 0);
@@ -1147,7 +1106,7 @@ public final class PromiseTest {
     }
 
     private static void count() {
-        promise = 38;
+        about("promise 38");
         GumBubble x = of(0, 0);
         due(x.count(-1), NONE);
         due(x.count(7), NONE);
@@ -1164,7 +1123,7 @@ public final class PromiseTest {
 
     /** Terms 2: what is asked changes nothing. */
     private static void askingChangesNothing() {
-        promise = 11;
+        about("promise 11");
         GumBubble x = on("stretch 5 m=2;wind 1");
         x.child(6, 3);
         x.child(4, 2);
